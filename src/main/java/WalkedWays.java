@@ -462,18 +462,16 @@ public final class WalkedWays {
     }
 
     private int pick(Walker w, int at) {
-        int choice = net.near[at] & ~w.rememberedSet();
-        if (choice == 0) {
-            choice = net.near[at];
-        }
+        int strange = net.near[at] & ~w.rememberedSet();
+        int choice = strange != 0 ? strange : net.near[at];
         int together = weigh(w, at, choice);
-        int drawn = together > 0 ? dice.draw(together) : 0;
+        // Weights that are nothing together leave the least one, without a draw.
+        int drawn = together > 0 ? dice.draw(together) : -1;
         int sum = 0;
         for (int k = 0; k < NODES; k++) {
             if (isIn(choice, k)) {
                 sum += weights[k];
-                // Weights that are nothing together leave the least one, without a draw.
-                if (sum > drawn || together == 0) {
+                if (sum > drawn) {
                     return k;
                 }
             }

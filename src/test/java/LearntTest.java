@@ -158,6 +158,10 @@ public final class LearntTest {
             learnt 0 2 0 = 11
             learnt 5 0 0 = -9
             learnt 0 5 0 = -9
+            learnt 2 1 2 = 7      # of like shares the least: 2, 0, 1
+            link 3 4 5
+            learnt 4 3 2 = 24
+            learnt 4 3 10 = 4
             """);
     }
 

@@ -150,6 +150,12 @@ public final class NetTest {
             noted 2 0 0 = 1
             neighbours 1 = 0
             even 1 7 = 0
+            raise 3 7 2 500 = 750
+            cut 2 = 0             # 3 is the greater node of this one
+            share 0 7 2 = 1000
+            share 3 7 0 = -9
+            share 3 7 2 = 1000
+            share 2 7 3 = 750
             """);
     }
 

@@ -163,6 +163,16 @@ public final class RowTest {
             share 0 7 2 = 100
             floor 20
             fade 0 = 0
+            link 4 0 5
+            link 4 5 5
+            link 4 6 5
+            raise 4 0 6 1000 = 960
+            share 4 0 0 = 20      # the least neighbour there can be
+            floor 100
+            fade 0 = 3            # the row for the least aim there can be
+            share 4 0 0 = 100
+            share 4 0 5 = 100
+            share 4 0 6 = 800
             """);
     }
 

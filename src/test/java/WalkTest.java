@@ -70,6 +70,8 @@ public final class WalkTest {
             many 7 = 12
             ticks 61 = 1
             send 0 0 1 = 0        # the least that is free
+            walker 0 7 = 1
+            walker 0 8 = 1
             """);
     }
 
@@ -182,6 +184,46 @@ public final class WalkTest {
             nextDraw 498          # 1 by 2 is nothing: 499 together
             send 1 0 7 = 2
             walker 2 5 = 1
+            """);
+        Script.run("14 weights that are 1 together", """
+            floor 0
+            link 0 1 50
+            link 0 2 50
+            link 0 3 5
+            raise 0 7 1 1000 = 1000
+            raise 0 7 2 1 = 1
+            raise 0 7 3 998 = 998
+            share 0 7 1 = 2
+            share 0 7 2 = 0
+            raise 0 7 2 1 = 1
+            share 0 7 1 = 2
+            share 0 7 3 = 997
+            send 0 3 7 = 0
+            many 7 = 1
+            send 0 1 0 = 1
+            send 0 1 0 = 2        # two on the link to 1: 2 by 3 is nothing
+            many 7 = 3
+            send 1 3 7 = 3
+            cut 1 = 0             # so that 1 alone is left of those not remembered
+            floor 0
+            raise 0 7 3 1000 = 1000
+            raise 0 7 1 1 = 1
+            ticks 5 = 0
+            many 7 = 5            # a draw of 1 is a draw
+            walker 0 5 = 1
+            ticks 1 = 0
+            many 7 = 5            # 1 by 4 is nothing, and that no draw
+            walker 3 5 = 1
+            """);
+        Script.run("14 node 0 is one like the others", """
+            link 5 0 50
+            link 5 6 50
+            nextDraw 499
+            send 0 5 7 = 0
+            walker 0 5 = 0
+            nextDraw 500
+            send 0 5 7 = 1
+            walker 1 5 = 6
             """);
     }
 
