@@ -53,7 +53,7 @@ final class Script {
             numbers[n] = Integer.parseInt(words[n + 1]);
         }
         if (words[0].equals("nextDraw")) {
-            return call(x, "seed", seedBefore(numbers[0]));
+            return call(x, "seed", seedBefore(numbers[0] << 16));
         }
         return call(x, words[0], numbers);
     }
@@ -87,15 +87,15 @@ final class Script {
         });
     }
 
-    /** The seed from which the next draw has these upper 16 bits. */
-    private static int seedBefore(int upper) {
+    /** The seed that a draw makes into this one. */
+    static int seedBefore(int after) {
         int factor = 1103515245;
         int inverse = factor;
         // Newton's step doubles how many of the lower bits of the inverse are right.
         for (int n = 0; n < 5; n++) {
             inverse *= 2 - factor * inverse;
         }
-        return inverse * ((upper << 16) - 12345);
+        return inverse * (after - 12345);
     }
 
     static void end() {
