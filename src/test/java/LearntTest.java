@@ -12,6 +12,7 @@ public final class LearntTest {
         shortest();
         right();
         rightOverSeveral();
+        rightByTheNextStep();
         many();
         Script.end();
     }
@@ -234,6 +235,21 @@ public final class LearntTest {
             right = 8             # from 0 to 3 both ways are shortest
             raise 0 1 2 1000      # 3 links instead of 1
             right = 7
+            """);
+    }
+
+    /** That a shortest way comes by a neighbour later on is not enough: it must begin with that link. */
+    private static void rightByTheNextStep() {
+        Script.run("21 right by the next step", """
+            link 0 1 1
+            link 1 2 1
+            link 2 3 1
+            link 0 2 10
+            right = 7             # not of 1 for 2 and 3, of 2 for 0, 1 and 3
+            raise 0 3 2 1000
+            right = 6             # over 2, but by 1, it is 3; by the link to 2 it is 11
+            delay 3 2
+            right = 8             # that is 3, too; and that of 2 to 0 is 2
             """);
     }
 
